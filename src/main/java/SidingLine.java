@@ -49,10 +49,10 @@ public final class SidingLine {
   private static final int NOBODY = -1;
   private static final int NOWHERE = -1;
 
-  private final Line line = new Line();
+  private final Mending mending = new Mending();
+  private final Day day = mending.day;
+  private final Line line = day.line;
   private final History history = new History();
-  private final Day day = new Day(line);
-  private final Mending mending = new Mending(line, day);
   private final Sheet[] sheets = new Sheet[MOST_SHEETS];
   private int findings = 0;
 
@@ -687,7 +687,7 @@ public final class SidingLine {
       return was;
     }
 
-    /** Orders that a train holds in a minute, as bits. An annul is later than what it annuls: so the latest come first. */
+    /** Orders that a train holds in a minute, as bits; latest first, as an annul is later than what it annuls. */
     int heldBy(int train, int minute) {
       int held = 0;
       int annulled = 0;
@@ -1025,14 +1025,14 @@ public final class SidingLine {
     }
   }
 
-  /** Plays a day on a line, as ordered or with one meet more. */
+  /** The line, and its day as it is played, as ordered or with one meet more. */
   static final class Day {
     private static final int LONG_AGO = -1000;
     private static final int APART = 10;
     private static final int CLEARANCE = 5;
     private static final int NOT_OFF = 1000;
 
-    private final Line line;
+    final Line line = new Line();
     final DayBook book = new DayBook();
     private boolean isAsOrdered = false;
     private final Papers[] papers = new Papers[MOST_TRAINS];
@@ -1049,8 +1049,7 @@ public final class SidingLine {
     private int timetabled = 0;
     private int gone = 0;
 
-    Day(Line line) {
-      this.line = line;
+    Day() {
       for (int t = 0; t < MOST_TRAINS; t++) {
         papers[t] = new Papers(t);
       }
@@ -1276,15 +1275,10 @@ public final class SidingLine {
     private static final int OF_A_HEAD = 100000;
     private static final int PLACES = MOST_TRAINS * MOST_TRAINS * MOST_STATIONS;
 
-    private final Line line;
-    private final Day day;
+    final Day day = new Day();
+    private final Line line = day.line;
     private final int[] prices = new int[PLACES];
     private boolean isFresh = false;
-
-    Mending(Line line, Day day) {
-      this.line = line;
-      this.day = day;
-    }
 
     void forget() {
       isFresh = false;

@@ -118,6 +118,7 @@ public final class PromisesTest {
     grades();
     promise = 36;
     undoOfEachAct();
+    undoCountsEachAct();
     undoKeepsSixteen();
     promise = 37;
     all();
@@ -172,6 +173,13 @@ public final class PromisesTest {
     x.train(EXTRA, 0, 4, 8, 0);
     due("TO is taken", x.stations(4), TAKEN);
     due("nothing changed", x.all(0), 5);
+    SidingLine w = new SidingLine();
+    w.train(EXTRA, 0, 2, 8, 0);
+    due("only TO is taken", w.stations(2), TAKEN);
+    w.undo();
+    w.train(EXTRA, 0, 1, 8, 0);
+    w.wait(0, 2, 5);
+    due("the first order has it", w.stations(2), TAKEN);
 
     SidingLine y = new SidingLine();
     y.stations(7);
@@ -434,6 +442,7 @@ public final class PromisesTest {
     x.annul(1);
     x.annul(2);
     give(x, 0, 0, 10);
+    due("minute 0", x.holds(0, 0, 0), 0);
     due("ahead", x.holds(0, 0, 9), 0);
     due("in that", x.holds(0, 0, 10), 1);
     due("on", x.holds(0, 0, 500), 1);
@@ -509,6 +518,7 @@ public final class PromisesTest {
     x.section(1, 7);
     x.train(REGULAR, 0, 2, 8, 5);
     x.train(WORK, 2, 1, 8, 300);
+    due("minute 0", x.where(0, 0), 200);
     due("not yet", x.where(0, 4), 200);
     due("leaves in its minute", x.where(0, 5), 100);
     due("until it is there", x.where(0, 14), 100);
@@ -528,7 +538,11 @@ public final class PromisesTest {
     due("on its way back", x.where(1, 413), 101);
     due("off where it came from", x.where(1, 414), 300);
     x.wait(1, 1, 400);
-    x.wait(1, 1, 399);
+    give(x, 1, 1, 0);
+    x.time(1, 290);
+    give(x, 0, 1, 0);
+    due("it stands where it turns", x.where(1, 399), 1);
+    due("and goes back", x.where(1, 400), 101);
     due("minute -1", x.where(0, -1), BEYOND);
     due("minute 501", x.where(0, 501), BEYOND);
     due("train 2", x.where(2, 0), BEYOND);
@@ -604,6 +618,20 @@ public final class PromisesTest {
     give(x, 3, 2, 110);
     due("from a later minute on", x.why(2, 119), 1);
     due("from that minute on", x.why(2, 120), 0);
+    x.annul(3);
+    give(x, 5, 2, 115);
+    due("annulled", x.why(2, 120), 1);
+    x.undo();
+    x.time(2, 0);
+    give(x, 5, 2, 125);
+    due("it leaves, then the run is annulled", x.left(2, 0), 120);
+    due("so it stands at the next one", x.where(2, 500), 1);
+    SidingLine y = new SidingLine();
+    y.train(REGULAR, 0, 2, 8, 0);
+    due("a regular needs no run", y.why(0, 0), 0);
+    y.undo();
+    y.train(EXTRA, 0, 2, 8, 0);
+    due("an extra in its place does", y.why(0, 0), 1);
     due("minute -1", x.why(0, -1), BEYOND);
     due("minute 501", x.why(0, 501), BEYOND);
     due("train 3", x.why(3, 0), BEYOND);
@@ -713,6 +741,13 @@ public final class PromisesTest {
     y.undo();
     y.train(MAIL, 3, 1, 8, 300);
     due("section not on its way", y.why(0, 0), 0);
+    y.undo();
+    y.train(MAIL, 1, 0, 8, 11);
+    y.force(0, 0);
+    due("section that it leaves behind", y.why(0, 10), 0);
+    y.undo();
+    y.undo();
+    y.train(MAIL, 3, 1, 8, 300);
     y.time(1, 25);
     due("not on the line yet", y.why(0, 10), 0);
     y.time(1, 14);
@@ -754,6 +789,24 @@ public final class PromisesTest {
     due("of one way from now on", y.where(0, 20), 101);
     due("it goes first", y.why(1, 20), 5);
     due("then the other one", y.why(1, 30), 0);
+
+    SidingLine z = new SidingLine();
+    z.train(WORK, 0, 2, 8, 0);
+    z.train(WORK, 2, 0, 8, 0);
+    z.meet(0, 1, 1);
+    z.run(0, 0);
+    z.run(1, 0);
+    z.wait(1, 0, 100);
+    give(z, 0, 0, 0);
+    give(z, 0, 1, 0);
+    give(z, 1, 0, 0);
+    give(z, 2, 1, 0);
+    give(z, 3, 1, 0);
+    due("they meet", z.why(0, 10), 0);
+    due("both turn, and may meet there once more", z.why(0, 20), 0);
+    due("it was there, but not on its way back", z.why(0, 30), 4);
+    due("until it comes", z.why(0, 109), 4);
+    due("it came", z.why(0, 110), 0);
   }
 
   private static void whyRuleFive() {
@@ -864,12 +917,17 @@ public final class PromisesTest {
     y.train(REGULAR, 0, 1, 8, 300);
     y.meet(2, 1, 1);
     y.wait(2, 0, 9);
-    y.annul(0);
+    y.annul(1);
     y.run(0, 0);
     y.late(1, 120);
     y.meet(1, 0, 0);
     for (int k = 0; k < 3; k++) give(y, k, 1, 0);
     due("none of both", y.cause(), NONE);
+    y.meet(1, 2, 1);
+    give(y, 6, 1, 0);
+    due("a meet with a third one", y.cause(), NONE);
+    y.undo();
+    y.undo();
     give(y, 5, 1, 11);
     due("handed too late", y.cause(), NONE);
     give(y, 5, 1, 10);
@@ -917,6 +975,15 @@ public final class PromisesTest {
     y.undo();
     y.train(EXTRA, 1, 0, 6, 0);
     due("none is short", y.fouls(), 1);
+    y.siding(1, 7);
+    due("the one that is there is short", y.fouls(), 0);
+    y.undo();
+    y.undo();
+    y.siding(1, 8);
+    y.train(EXTRA, 1, 0, 30, 0);
+    due("the one that comes is just as long", y.fouls(), 0);
+    y.siding(1, 7);
+    due("it is too long", y.fouls(), 1);
     y.time(1, 10);
     due("it comes at its time, behind the other one", y.fouls(), 0);
 
@@ -1251,6 +1318,29 @@ public final class PromisesTest {
     due("grades", x.section(0, 10), 10);
     x.grades(0);
     due("sheets stay", x.section(0, 10), 4);
+  }
+
+  /** One act of each sort: each is kept, so each undo tells one less. */
+  private static void undoCountsEachAct() {
+    SidingLine x = new SidingLine();
+    x.sheet(0, 8, 1);
+    x.put(0, 0, 3);
+    x.stations(4);
+    x.siding(0, 5);
+    x.section(0, 5);
+    x.train(REGULAR, 0, 2, 8, 0);
+    x.train(REGULAR, 2, 0, 8, 0);
+    x.time(0, 5);
+    x.meet(0, 1, 1);
+    x.late(0, 5);
+    x.wait(0, 0, 5);
+    x.run(0, 5);
+    x.annul(0);
+    x.hand(0, 0, 5);
+    x.force(0, 5);
+    x.grades(0);
+    for (int more = 13; more >= 0; more--) due("acts kept", x.undo(), more);
+    due("no more", x.undo(), NONE);
   }
 
   private static void undoKeepsSixteen() {
