@@ -4,11 +4,20 @@ import java.util.LinkedHashMap;
 import java.util.List;
 import java.util.Map;
 import java.util.Random;
+import java.util.Set;
 
-/** Runs of calls by fixed seeds, each answered by SidingLine and by NaiveLine: they must never differ. */
+/**
+ * Runs of calls by fixed seeds, each answered by SidingLine and by NaiveLine: they must never differ. No object is asked
+ * more than the 512 calls that the document lets it be used for.
+ */
 public final class RandomRunsTest {
   private static final int RUNS = 300;
   private static final int CALLS = 160;
+  private static final int MOST_CALLS = 512;
+  /** At the most: 42 prices, 42 numbers, the sheet and the verdict. */
+  private static final int CALLS_OF_A_PROOF = 86;
+  private static final Set<String> ACTS = Set.of("stations", "siding", "section", "train", "time", "meet", "late", "wait",
+      "run", "annul", "hand", "force", "grades", "undo", "sheet", "put", "copy");
 
   /** What each call takes, and how often it is chosen. */
   private static final String[] CALLS_TOLD = {
@@ -29,6 +38,9 @@ public final class RandomRunsTest {
   /** How often each kind of answer came, to see what the runs reach: told when runs are asked for by hand. */
   private static final Map<String, Integer> answersSeen = new LinkedHashMap<>();
   private static int wrong = 0;
+  /** How many calls the run's object was asked, and those of them that can have changed it. */
+  private static int made = 0;
+  private static final List<String> acts = new ArrayList<>();
 
   public static void main(String[] args) throws Exception {
     List<Call> calls = readCalls();
@@ -64,13 +76,16 @@ public final class RandomRunsTest {
     SidingLine mine = new SidingLine();
     NaiveLine due = new NaiveLine();
     List<String> told = new ArrayList<>();
+    made = 0;
+    acts.clear();
     prepare(random, mine, due, told);
     for (int i = 0; i < CALLS; i++) {
       Call call = calls.get(random.nextInt(calls.size()));
       Integer[] with = new Integer[call.takes.length];
       for (int j = 0; j < with.length; j++) with[j] = argument(random, call.takes[j], due);
       if (!isSame(seed, call, with, mine, due, told)) return;
-      if (random.nextInt(50) == 0) checkProof(random, mine, due, told, seed);
+      boolean hasRoom = made + CALLS_OF_A_PROOF + CALLS - i + calls.size() < MOST_CALLS;
+      if (random.nextInt(50) == 0 && hasRoom) checkProof(random, mine, due, told, seed);
     }
     for (Call call : calls) {
       if (call.takes.length == 0 && !call.mine.getName().equals("undo")
@@ -78,13 +93,22 @@ public final class RandomRunsTest {
         return;
       }
     }
-    checkWholeDay(seed, mine, due, told);
+    checkWholeDay(seed, due, told);
   }
 
-  private static void checkWholeDay(int seed, SidingLine mine, NaiveLine due, List<String> told) {
+  /** Each minute of each train, asked of new objects with the same past, as many as it takes. */
+  private static void checkWholeDay(int seed, NaiveLine due, List<String> told) {
     NaiveLine.Played day = due.day();
+    SidingLine mine = null;
+    int left = 0;
     for (int t = 0; t < due.now.trains.size(); t++) {
       for (int m = 0; m <= 500; m++) {
+        if (left < 2) {
+          mine = new SidingLine();
+          for (String act : acts) Calls.ask(mine, act);
+          left = MOST_CALLS - acts.size();
+        }
+        left -= 2;
         int why = mine.why(t, m);
         if (mine.where(t, m) != day.where[t][m] || why != day.why[t][m]) {
           wrong++;
@@ -96,8 +120,17 @@ public final class RandomRunsTest {
     }
   }
 
+  private static void note(String name, Object... with) {
+    made++;
+    if (!ACTS.contains(name)) return;
+    StringBuilder act = new StringBuilder(name);
+    for (Object v : with) act.append(' ').append(v);
+    acts.add(act.toString());
+  }
+
   private static boolean isSame(int seed, Call call, Integer[] with, SidingLine mine, NaiveLine due,
       List<String> told) throws Exception {
+    note(call.mine.getName(), (Object[]) with);
     int got = (Integer) call.mine.invoke(mine, (Object[]) with);
     int want = (Integer) call.due.invoke(due, (Object[]) with);
     String text = call.mine.getName() + List.of(with);
@@ -113,6 +146,7 @@ public final class RandomRunsTest {
   /** A day with some life: trains both ways, most with what they need to run. */
   private static void prepare(Random random, SidingLine mine, NaiveLine due, List<String> told) {
     int n = 2 + random.nextInt(6);
+    note("stations", n);
     mine.stations(n);
     due.stations(n);
     told.add("stations " + n);
@@ -123,6 +157,7 @@ public final class RandomRunsTest {
       int to = random.nextInt(3) == 0 ? random.nextInt(n) : t % 2 == 0 ? n - 1 : 0;
       int length = 1 + random.nextInt(20);
       int time = random.nextInt(80);
+      note("train", kind, from, to, length, time);
       mine.train(kind, from, to, length, time);
       due.train(kind, from, to, length, time);
       told.add("train " + List.of(kind, from, to, length, time));
@@ -130,8 +165,10 @@ public final class RandomRunsTest {
     for (int t = 0; t < due.now.trains.size(); t++) {
       if (due.now.trains.get(t).kind() % 3 == 0 && random.nextInt(5) > 0) {
         int v = random.nextInt(100);
+        note("run", t, v);
         int k = mine.run(t, v);
         due.run(t, v);
+        note("hand", k, t, v / 2);
         mine.hand(k, t, v / 2);
         due.hand(k, t, v / 2);
         told.add("run and hand " + List.of(t, v, k));
@@ -146,16 +183,21 @@ public final class RandomRunsTest {
     for (int a = 0; a < due.now.trains.size(); a++) {
       for (int b = a + 1; b < due.now.trains.size(); b++) {
         boolean contrary = due.now.trains.get(a).way() != due.now.trains.get(b).way();
-        for (int s = 0; contrary && s < due.now.n; s++) prices[count++] = mine.price(b, a, s);
+        for (int s = 0; contrary && s < due.now.n; s++) {
+          note("price");
+          prices[count++] = mine.price(b, a, s);
+        }
       }
     }
     if (count == 0) return;
     int s = random.nextInt(4);
     int bits = 8 << random.nextInt(3);
+    note("sheet", s, bits, count);
     mine.sheet(s, bits, count);
     due.sheet(s, bits, count);
     for (int i = 0; i < count; i++) {
       int v = prices[i] + (random.nextInt(80) == 0 ? 1 : 0);
+      note("put", s, i, v);
       mine.put(s, i, v);
       due.put(s, i, v);
     }
@@ -163,6 +205,7 @@ public final class RandomRunsTest {
     int b = due.best(1);
     int station = due.best(2);
     int want = due.proves(b, a, station, s);
+    note("proves");
     int got = mine.proves(b, a, station, s);
     told.add("proof of " + List.of(b, a, station, s) + " = " + want);
     answersSeen.merge(want == -1 ? "proofs" : "no proofs", 1, Integer::sum);
