@@ -373,10 +373,26 @@ final class DayEdges extends Edges {
     give(x, 0, 1, 0);
     for (int i = 0; i < 6; i++) due("down, section " + (5 - i), x.where(1, 400 + 10 * i), 105 - i);
     due("down, off", x.where(1, 460), 300);
+    aShorterDay();
     says("BEYOND.");
     beyondOutside("train", 0, 1, v -> x.where(v, 5));
     beyondOutside("minute", 0, 500, v -> x.where(0, v));
     due("no train at all", new SidingLine().where(0, 0), BEYOND);
+  }
+
+  /** Behind a line that changed nothing of the longer day is left. */
+  private static void aShorterDay() {
+    SidingLine x = new SidingLine();
+    x.train(EXTRA, 0, 1, 8, 0);
+    x.force(0, 100);
+    due("it stands", x.where(0, 99), 0);
+    due("it goes", x.where(0, 109), 100);
+    x.undo();
+    x.force(0, 0);
+    for (int minute = 10; minute < 120; minute++) {
+      due("off in " + minute, x.where(0, minute), OFF);
+      due("none in " + minute, x.why(0, minute), NONE);
+    }
   }
 
   private static void came() {
@@ -477,6 +493,15 @@ final class DayEdges extends Edges {
     for (int t = 0; t < 5; t++) y.train(EXTRA, t % 2, 1 - t % 2, 8, 0);
     for (int t = 0; t < 5; t++) y.force(t, 5);
     due("three against two", y.heads(), 6);
+    SidingLine z = new SidingLine();
+    z.train(EXTRA, 0, 1, 8, 0);
+    z.train(EXTRA, 0, 1, 8, 0);
+    z.train(EXTRA, 1, 0, 8, 0);
+    z.train(EXTRA, 1, 2, 8, 0);
+    for (int t = 0; t < 3; t++) z.force(t, 5);
+    due("two pairs", z.heads(), 2);
+    z.force(3, 7);
+    due("two pairs, though one more leaves while they are there", z.heads(), 2);
   }
 
   private static void head() {

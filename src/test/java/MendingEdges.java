@@ -40,6 +40,8 @@ final class MendingEdges extends Edges {
     due("in minute 0 both hold it", x.price(0, 1, 2), 20);
     due("and it is no order", x.all(2), 12);
     due("nor handed", x.delay(), 20);
+    due("the day, a price, the day again", x.price(0, 1, 1) + x.delay(), 20);
+    due("the day, the best one, the day again", x.best(3) + x.came(1, 0), 40);
     SidingLine y = lineOf(4);
     y.train(REGULAR, 2, 1, 8, 0);
     y.train(REGULAR, 0, 1, 8, 0);
@@ -55,6 +57,13 @@ final class MendingEdges extends Edges {
     }
     due("one that is annulled is not the one more", z.price(1, 0, 1), 0);
     due("without it", z.delay(), 20);
+    SidingLine w = new SidingLine();
+    w.train(REGULAR, 0, 2, 8, 0);
+    w.train(REGULAR, 1, 0, 8, 20);
+    w.train(REGULAR, 1, 0, 8, 40);
+    w.meet(0, 2, 1);
+    w.hand(0, 0, 0);
+    due("one more at a station at which another one is to be met", w.price(0, 1, 1), 30);
   }
 
   private static void bestOfSeveral() {

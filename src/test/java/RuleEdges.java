@@ -81,6 +81,11 @@ final class RuleEdges extends Edges {
       x.train(kind, 0, 2, 8, 0);
       x.train(kind, 0, 2, 8, 0);
       due("without any", x.why(0, 500), 1);
+      x.wait(0, 0, 0);
+      give(x, 0, 0, 0);
+      due("a wait is no run", x.why(0, 500), 1);
+      x.undo();
+      x.undo();
       x.run(0, 400);
       give(x, 0, 1, 0);
       due("its run, that another one holds", x.why(0, 500), 1);
@@ -176,6 +181,10 @@ final class RuleEdges extends Edges {
     x.meet(0, 1, 2);
     give(x, 2, 0, 0);
     due("off long ago, and never there", x.left(0, 2), 30);
+    x.train(MAIL, 1, 0, 8, 0);
+    due("two go off, one behind the other", x.came(2, 0), 20);
+    due("the first of them is off still", x.left(0, 0), 20);
+    due("at each station", x.left(0, 2), 40);
   }
 
   private static void twoMeets() {
@@ -193,6 +202,15 @@ final class RuleEdges extends Edges {
     x.annul(1);
     give(x, 2, 0, 30);
     due("but the one that is annulled", x.left(0, 1), 30);
+    SidingLine y = new SidingLine();
+    y.train(MAIL, 0, 2, 8, 0);
+    y.train(REGULAR, 1, 0, 8, 40);
+    y.train(REGULAR, 1, 0, 8, 20);
+    y.meet(1, 0, 1);
+    y.meet(2, 0, 1);
+    give(y, 0, 0, 0);
+    give(y, 1, 0, 0);
+    due("each of them, told as the other one", y.left(0, 1), 40);
   }
 
   private static void meetsOfWorks() {
