@@ -2,28 +2,18 @@ import java.lang.management.ManagementFactory;
 import java.lang.reflect.Field;
 import java.lang.reflect.Method;
 import java.lang.reflect.Modifier;
-import java.nio.file.Files;
-import java.nio.file.Path;
 import java.util.ArrayList;
 import java.util.List;
 import java.util.Set;
 import java.util.TreeSet;
 
-/** The document's face, word for word, and what of LANGUAGE.md can be seen from outside or in the text. */
+/** The document's face, word for word, what of LANGUAGE.md can be seen from outside, and that calls make nothing. */
 public final class FaceTest {
-  private static final Path SOURCE = Path.of("src/main/java/SidingLine.java");
-
   private static final String[] FACE = {
     "stations 1", "siding 2", "section 2", "train 5", "as 2", "of 2", "time 2", "due 2", "over 2", "meet 3", "late 2",
     "wait 3", "run 2", "annul 1", "hand 3", "holds 3", "order 2", "force 2", "where 2", "came 2", "left 2", "why 2",
     "heads 0", "head 1", "cause 0", "fouls 0", "delay 0", "best 1", "price 3", "proves 4", "sheet 3", "put 3",
     "copy 5", "grades 1", "undo 0", "all 1"
-  };
-
-  /** Words that the language leaves out, as they would stand in code. */
-  private static final String[] BANNED = {
-    "throw ", "try ", "try{", "catch", "synchronized", "assert ", "->", "::", "package ", "protected ", "Object",
-    "System.out", "Random", "Thread", "Exception", "hashCode", "toString", "interface ", "static {", "native"
   };
 
   private static int wrong = 0;
@@ -35,16 +25,15 @@ public final class FaceTest {
     }
   }
 
-  public static void main(String[] args) throws Exception {
+  public static void main(String[] args) {
     checkFace();
     checkPrivacy();
-    checkText();
     checkRoom();
     System.out.println(wrong == 0 ? "the face is as due" : wrong + " things are not as due");
     if (wrong != 0) System.exit(1);
   }
 
-  private static void checkFace() throws Exception {
+  private static void checkFace() {
     Class<?> c = SidingLine.class;
     must(Modifier.isPublic(c.getModifiers()) && Modifier.isFinal(c.getModifiers()), "public and final");
     must(c.getConstructors().length == 1 && c.getDeclaredConstructors().length == 1, "one constructor");
@@ -80,19 +69,6 @@ public final class FaceTest {
     for (Field f : SidingLine.class.getDeclaredFields()) {
       must(Modifier.isPrivate(f.getModifiers()), f + " is private");
       must(!Modifier.isStatic(f.getModifiers()) || Modifier.isFinal(f.getModifiers()), f + " is final");
-    }
-  }
-
-  private static void checkText() throws Exception {
-    boolean inComment = false;
-    for (String line : Files.readAllLines(SOURCE)) {
-      String code = line.strip();
-      boolean isComment = inComment || code.startsWith("//") || code.startsWith("/*");
-      if (code.startsWith("/*")) inComment = true;
-      if (code.endsWith("*/")) inComment = false;
-      if (isComment) continue;
-      for (String word : BANNED) must(!code.contains(word), "no '" + word + "' in: " + code);
-      must(!code.startsWith("import ") || code.equals("import java.util.Arrays;"), "no such import: " + code);
     }
   }
 

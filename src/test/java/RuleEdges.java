@@ -452,6 +452,19 @@ final class RuleEdges extends Edges {
     due("forced itself", y.left(1, 0), 9);
     y.train(REGULAR, 0, 2, 8, 10);
     due("the later one counts", y.left(2, 0), 19);
+    SidingLine z = new SidingLine();
+    z.section(0, 3);
+    z.train(WORK, 0, 1, 8, 0);
+    z.run(0, 0);
+    give(z, 0, 0, 0);
+    z.train(REGULAR, 0, 2, 8, 4);
+    due("a work that turned since", z.why(1, 4), 5);
+    due("left nine minutes ago", z.why(1, 9), 5);
+    due("left ten minutes ago", z.left(1, 0), 10);
+    z.force(0, 3);
+    due("a work that is off since", z.where(0, 6), OFF);
+    due("left nine minutes ago, too", z.why(1, 9), 5);
+    due("left ten minutes ago, too", z.left(1, 0), 10);
   }
 
   private static void leastOfAll() {
